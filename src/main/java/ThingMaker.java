@@ -61,7 +61,7 @@ public final class ThingMaker {
         if (!draft.findRanks()) {
             return STATE;
         }
-        history.record(book, stock);
+        history.remember(book, stock);
         book.copyFrom(draft);
         return book.rankOf(reader.made);
     }
@@ -73,7 +73,7 @@ public final class ThingMaker {
         if (!book.isMade(thing)) {
             return STATE;
         }
-        history.record(book, stock);
+        history.remember(book, stock);
         int yielded = book.yieldOf(thing);
         book.strike(thing);
         book.findRanks();
@@ -95,7 +95,7 @@ public final class ThingMaker {
         if (!draft.findRanks()) {
             return STATE;
         }
-        history.record(book, stock);
+        history.remember(book, stock);
         book.copyFrom(draft);
         return book.substitutesOf(thing);
     }
@@ -104,7 +104,7 @@ public final class ThingMaker {
         if (!isThing(thing) || k < 0 || k >= book.substitutesOf(thing)) {
             return BAD;
         }
-        history.record(book, stock);
+        history.remember(book, stock);
         int removed = book.substituteAt(thing, k);
         book.removeSubstitute(thing, k);
         book.findRanks();
@@ -119,7 +119,7 @@ public final class ThingMaker {
         if (!taken && (book.vesselOf(vessel) != NONE || book.isVessel(thing))) {
             return STATE;
         }
-        history.record(book, stock);
+        history.remember(book, stock);
         int before = book.vesselOf(thing);
         book.setVessel(thing, vessel);
         return before;
@@ -136,7 +136,7 @@ public final class ThingMaker {
         if (after > MOST_IN_STORE) {
             return FULL;
         }
-        history.record(book, stock);
+        history.remember(book, stock);
         add(stock.amounts, thing, after - before);
         add(stock.brought, thing, after - before);
         return after;
@@ -348,7 +348,7 @@ public final class ThingMaker {
         if (image == null) {
             return STATE;
         }
-        history.record(book, stock);
+        history.remember(book, stock);
         image.layOut(book, stock);
         return book.recipes();
     }
@@ -357,7 +357,7 @@ public final class ThingMaker {
 
     /** Makes what the works have done the present store, as a change. */
     private int acceptWorks() {
-        history.record(book, stock);
+        history.remember(book, stock);
         stock.copyFrom(works.bench);
         return works.gathered();
     }
@@ -798,7 +798,7 @@ public final class ThingMaker {
             return size;
         }
 
-        void record(Book book, Stock stock) {
+        void remember(Book book, Stock stock) {
             int place = placeOf(size);
             if (size < MOST_RECORDED) {
                 size++;

@@ -66,6 +66,12 @@ public final class BookTest {
         }
         C.due("rank of the last", 8, y.thing(8, 1));
         C.due("one more from above", -2, Checks.lay(y, "a=k"));
+        ThingMaker z = new ThingMaker();
+        for (int k = 7; k >= 0; k--) {
+            String recipe = letters.charAt(k) + "=" + letters.charAt(k + 1);
+            C.due("downwards " + recipe, 8 - k, Checks.lay(z, recipe));
+        }
+        C.due("one more downwards", -2, Checks.lay(z, "t=a"));
     }
 
     private static void rings() {
@@ -220,6 +226,7 @@ public final class BookTest {
         C.due("no such vessel, ahead of that", -1, x.vessel(5, 20));
         C.due("taking from a vessel is no fault", -9, x.vessel(5, -9));
         C.due("five changes", 5, x.told(7));
+        C.due("0 is the vessel of 2", -2, x.vessel(0, 8));
         C.due("taken away", 5, x.vessel(1, -9));
         C.due("none", -9, x.thing(1, 4));
         C.due("5 can have one now", -9, x.vessel(5, 7));
@@ -229,6 +236,10 @@ public final class BookTest {
         x.undo();
         x.undo();
         C.due("undone", -9, x.thing(6, 4));
+        ThingMaker y = new ThingMaker();
+        C.due("thing 0 has a vessel", -9, y.vessel(0, 4));
+        C.due("so 4 can have none", -2, y.vessel(4, 5));
+        C.due("and 0 can be none", -2, y.vessel(5, 0));
     }
 
     private static void ingredient() {
@@ -297,6 +308,8 @@ public final class BookTest {
         }
         x.forbid(2, 0);
         C.due("l is not needed for f without k", 0, x.isNeeded(11, 5));
+        ThingMaker z = Checks.with("a=b", "c=a");
+        C.due("by way of a", 1, z.isNeeded(1, 2));
         ThingMaker y = Checks.with("b=a", "c=b", "d=c", "e=d", "f=e", "g=f", "h=g", "i=h");
         C.due("a long way", 1, y.isNeeded(0, 8));
         C.due("a long way back", 0, y.isNeeded(8, 0));

@@ -9,6 +9,7 @@ public final class TextTest {
         wrongNumbers();
         wrongIngredients();
         earlyEnds();
+        wipedBytes();
         everyByteEverywhere();
         rememberedFault();
         C.end();
@@ -154,6 +155,21 @@ public final class TextTest {
         faulty("a=b+c+d+e+f+", 4, 12);
         faulty("a=b+c+d+e+f+3", 4, 13);
         faulty("a=b+1", 4, 5);
+    }
+
+    /** What stood in a longer text before plays no part. */
+    private static void wipedBytes() {
+        ThingMaker x = new ThingMaker();
+        Checks.lay(x, "a=99b+99c");
+        Checks.lay(x, "a=9");
+        C.due("kind", 4, x.fault(0));
+        C.due("place", 3, x.fault(1));
+        Checks.lay(x, "a");
+        C.due("kind", 4, x.fault(0));
+        C.due("place", 1, x.fault(1));
+        C.due("shorter", 1, Checks.lay(x, "a=9b"));
+        C.due("one ingredient", 1, x.thing(0, 3));
+        C.due("its amount", 9, x.ingredient(0, 0, 1));
     }
 
     /** Puts each byte at each place of a recipe; the grammar below tells what is due there. */

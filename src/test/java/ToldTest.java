@@ -47,6 +47,8 @@ public final class ToldTest {
             C.due("set of made things", (2 << k) - 2, y.told(5));
             C.due("recipes", k, y.told(0));
         }
+        C.due("a has the greatest rank", 1, Checks.with("a=b").told(4));
+        C.due("t has the greatest rank", 2, Checks.with("a=b", "t=a").told(4));
     }
 
     private static void thing() {

@@ -118,6 +118,22 @@ public final class WouldBeTest {
     }
 
     private static void canHaveLimits() {
+        ThingMaker one = Checks.with("d3=2a");
+        one.bring(0, 3);
+        C.due("one batch", 3, one.canHave(3));
+        one.bring(3, 2);
+        C.due("one batch and what is there", 5, one.canHave(3));
+        // More batches than 999 need would need nothing (52, by the vessels e of a), but no wish makes so many.
+        ThingMaker many = Checks.with("f20=c+e", "c=2a");
+        many.vessel(0, 4);
+        many.bring(0, 9999);
+        many.bring(2, 26);
+        C.due("50 batches for 999", 2, many.gather(5, 999, -9));
+        many.bring(5, 5);
+        C.due("only those that are there", 5, many.canHave(5));
+        many.bring(4, 2);
+        C.due("50 batches, not those for less", 999, many.canHave(5));
+        C.due("49 batches", 1, many.gather(5, 985, -9));
         ThingMaker x = Checks.with("d=a", "e2=a", "g3=2a");
         fill(x, 0);
         C.due("at most 999", 999, x.canHave(0));
