@@ -129,11 +129,11 @@ public final class WouldBeTest {
         many.bring(0, 9999);
         many.bring(2, 26);
         C.due("50 batches for 999", 2, many.gather(5, 999, -9));
-        many.bring(5, 5);
-        C.due("only those that are there", 5, many.canHave(5));
-        many.bring(4, 2);
-        C.due("50 batches, not those for less", 999, many.canHave(5));
-        C.due("49 batches", 1, many.gather(5, 985, -9));
+        many.bring(5, 40);
+        C.due("only those that are there", 40, many.canHave(5));
+        many.bring(4, 4);
+        C.due("48 batches, not those for less", 999, many.canHave(5));
+        C.due("47 batches", 1, many.gather(5, 980, -9));
         ThingMaker x = Checks.with("d=a", "e2=a", "g3=2a");
         fill(x, 0);
         C.due("at most 999", 999, x.canHave(0));
