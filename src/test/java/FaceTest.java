@@ -78,9 +78,6 @@ public final class FaceTest {
             C.due("ingredient", -9, x.ingredient(t, 0, 0));
             C.due("substitute", -9, x.substitute(t, 0));
             C.due("canHave", 0, x.canHave(t));
-            for (int other = 0; other < 20; other++) {
-                C.due("isNeeded", 0, x.isNeeded(t, other));
-            }
         }
         C.dueFloat("share()", 0.0f, x.share());
         C.due("fault(0)", -9, x.fault(0));
@@ -90,6 +87,12 @@ public final class FaceTest {
         C.due("back(1)", -2, x.back(1));
         C.due("wipe()", 0, x.wipe());
         C.due("undo() after these", -2, x.undo());
+        ThingMaker needless = new ThingMaker();
+        for (int t = 0; t < 20; t++) {
+            for (int other = 0; other < 20; other++) {
+                C.due("isNeeded", 0, needless.isNeeded(t, other));
+            }
+        }
         ThingMaker other = new ThingMaker();
         x.bring(0, 5);
         C.due("another object keeps its own store", 0, other.thing(0, 0));

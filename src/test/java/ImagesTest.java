@@ -27,11 +27,29 @@ public final class ImagesTest {
 
     /** Each kind of change, undone one after the other. */
     private static void undoRestores() {
-        ThingMaker x = Checks.with("d2=3a+b");
-        x.undo();
         String[] states = new String[9];
         for (int k = 0; k <= 8; k++) {
-            states[k] = Checks.stateOf(x);
+            int made = k;
+            states[k] = Checks.stateAfter(x -> changes(x, made));
+            C.dueTrue("change " + k + " changed something", k == 0 || !states[k].equals(states[k - 1]));
+        }
+        for (int k = 8; k >= 0; k--) {
+            ThingMaker x = new ThingMaker();
+            changes(x, 8);
+            x.write(120);
+            int length = x.told(6);
+            for (int left = 7; left >= k; left--) {
+                C.due("undo", left, x.undo());
+            }
+            C.due("changes", k, x.told(7));
+            C.due("the text stays", length, x.told(6));
+            C.dueText("state " + k, states[k], Checks.stateOf(x));
+        }
+    }
+
+    /** The first so many of eight changes, one of each kind. */
+    private static void changes(ThingMaker x, int count) {
+        for (int k = 0; k < count; k++) {
             switch (k) {
                 case 0: Checks.lay(x, "d2=3a+b"); break;
                 case 1: x.allow(0, 7); break;
@@ -40,18 +58,8 @@ public final class ImagesTest {
                 case 4: x.wish(3, 5); break;
                 case 5: x.make(3, 5); break;
                 case 6: x.forbid(0, 0); break;
-                case 7: x.forget(3); break;
-                default: break;
+                default: x.forget(3); break;
             }
-            C.due("changes", Math.min(k + 1, 8), x.told(7));
-            C.dueTrue("step " + k + " changed something", k == 8 || !states[k].equals(Checks.stateOf(x)));
-        }
-        x.write(120);
-        int length = x.told(6);
-        for (int k = 7; k >= 0; k--) {
-            C.due("undo", k, x.undo());
-            C.dueTrue("state " + k, states[k].equals(Checks.stateOf(x)));
-            C.due("the text stays", length, x.told(6));
         }
     }
 
@@ -140,20 +148,28 @@ public final class ImagesTest {
         C.due("nothing kept in 1", -2, x.back(1));
         C.due("keep of nothing", 0, x.keep(1));
         C.due("nothing kept in 0 still", -2, x.back(0));
+        work(x);
+        C.due("keep(0)", 2, x.keep(0));
+        C.due("back(1): a new state", 0, x.back(1));
+        C.dueText("as new", Checks.stateAfter(), Checks.stateOf(x));
+        ThingMaker y = new ThingMaker();
+        y.keep(1);
+        work(y);
+        y.keep(0);
+        y.back(1);
+        C.due("back(0)", 2, y.back(0));
+        C.due("the text stays", 5, y.told(6));
+        C.due("ranks work", -2, y.allow(1, 5));
+        C.dueText("as kept", Checks.stateAfter(ImagesTest::work), Checks.stateOf(y));
+    }
+
+    private static void work(ThingMaker x) {
         Checks.lay(x, "d2=3a+b");
         Checks.lay(x, "f=d+a");
         x.allow(0, 6);
         x.vessel(0, 9);
         x.bring(6, 5);
         x.wish(5, 3);
-        String kept = Checks.stateOf(x);
-        C.due("keep(0)", 2, x.keep(0));
-        C.due("back(1): a new state", 0, x.back(1));
-        C.dueTrue("as new", Checks.stateOf(new ThingMaker()).equals(Checks.stateOf(x)));
-        C.due("back(0)", 2, x.back(0));
-        C.dueTrue("as kept", kept.equals(Checks.stateOf(x)));
-        C.due("the text stays", 5, x.told(6));
-        C.due("ranks work", -2, x.allow(1, 5));
     }
 
     private static void backIsAChange() {

@@ -4,6 +4,8 @@ import java.util.Random;
 public final class ModelTest {
     private static final int RUNS = 600;
     private static final int CALLS = 512;
+    /** The most calls of one step: those that make a text and lay its recipe. */
+    private static final int MOST_OF_A_STEP = 40;
     private static final Checks C = new Checks("ModelTest");
 
     private final Random random;
@@ -26,7 +28,7 @@ public final class ModelTest {
     }
 
     private void run(int seed) {
-        for (int call = 0; call < CALLS; ) {
+        for (int call = 0; call <= CALLS - MOST_OF_A_STEP; ) {
             name = "seed " + seed + " call " + call + " ";
             call += step();
         }

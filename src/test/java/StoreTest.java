@@ -32,10 +32,7 @@ public final class StoreTest {
     }
 
     private static void fill(ThingMaker x, int thing) {
-        for (int i = 0; i < 10; i++) {
-            x.bring(thing, 9999);
-        }
-        x.bring(thing, 9);
+        Checks.fill(x, thing, 99999);
         C.due("filled", 99999, x.thing(thing, 0));
     }
 
@@ -374,17 +371,21 @@ public final class StoreTest {
     }
 
     private static void failureChangesNothing() {
-        ThingMaker x = Checks.with("d=a+3b", "f=4d");
+        ThingMaker x = new ThingMaker();
+        readyToFail(x);
+        C.due("too many batches", -3, x.wish(F, 400));
+        C.due("too many batches", -3, x.wish(F, 101));
+        C.due("no change", 6, x.told(7));
+        C.due("no fault", -9, x.fault(0));
+        C.dueText("nothing changed", Checks.stateAfter(StoreTest::readyToFail), Checks.stateOf(x));
+    }
+
+    private static void readyToFail(ThingMaker x) {
+        Checks.lay(x, "d=a+3b");
+        Checks.lay(x, "f=4d");
         x.bring(A, 20);
         x.allow(B, C_);
         x.bring(C_, 40);
         x.vessel(C_, V);
-        String before = Checks.stateOf(x);
-        int changes = x.told(7);
-        C.due("too many batches", -3, x.wish(F, 400));
-        C.due("too many batches", -3, x.wish(F, 101));
-        C.dueTrue("nothing changed", before.equals(Checks.stateOf(x)));
-        C.due("no change", changes, x.told(7));
-        C.due("no fault", -9, x.fault(0));
     }
 }

@@ -16,9 +16,7 @@ public final class WouldBeTest {
     }
 
     private static void fill(ThingMaker x, int thing) {
-        for (int i = 0; i < 11; i++) {
-            x.bring(thing, Math.min(9999, 99999 - x.thing(thing, 0)));
-        }
+        Checks.fill(x, thing, 99999);
     }
 
     private static void gather() {
@@ -251,13 +249,8 @@ public final class WouldBeTest {
     }
 
     private static void nothingHappens() {
-        ThingMaker x = Checks.with("d2=3a+b", "f=d+2c");
-        x.vessel(0, 9);
-        x.bring(0, 20);
-        x.bring(1, 20);
-        x.bring(2, 3);
-        x.wish(5, 1);
-        String before = Checks.stateOf(x);
+        ThingMaker x = new ThingMaker();
+        readyForAWish(x);
         int changes = x.told(7);
         C.due("19 f: 10 a and 37 c", 47, x.gather(5, 20, -9));
         C.due("vessels are not gathered", 0, x.gather(5, 20, 9));
@@ -266,7 +259,17 @@ public final class WouldBeTest {
         x.canHave(3);
         x.bestGift(5, 30);
         x.bestGift(5, 999);
-        C.dueTrue("nothing happened", before.equals(Checks.stateOf(x)));
         C.due("no change", changes, x.told(7));
+        C.dueText("nothing happened", Checks.stateAfter(WouldBeTest::readyForAWish), Checks.stateOf(x));
+    }
+
+    private static void readyForAWish(ThingMaker x) {
+        Checks.lay(x, "d2=3a+b");
+        Checks.lay(x, "f=d+2c");
+        x.vessel(0, 9);
+        x.bring(0, 20);
+        x.bring(1, 20);
+        x.bring(2, 3);
+        x.wish(5, 1);
     }
 }
