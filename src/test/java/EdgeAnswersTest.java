@@ -22,6 +22,7 @@ public final class EdgeAnswersTest {
         neededNotForItself();
         neededNoThing();
         shareOfAll();
+        shareConvertsBoth();
         shareOfNone();
         gatherOf();
         gatherNoThing();
@@ -55,6 +56,7 @@ public final class EdgeAnswersTest {
         ThingMaker x = OF.sentence("5 the set of things that are made (bit k for thing k)");
         Checks.lay(x, "a=b");
         OF.due("bit 0", 1, x.told(5));
+        OF.due("greatest rank, of the first thing", 1, x.told(4));
         Checks.lay(x, "t=a");
         OF.due("bit 0 and bit 19", 1 | 1 << 19, x.told(5));
         OF.due("recipes", 2, x.told(0));
@@ -250,6 +252,8 @@ public final class EdgeAnswersTest {
         x.allow(G, S);
         OF.due("a substitute of a substitute", 0, x.isNeeded(S, E));
         OF.due("for a gathered thing, its substitute", 0, x.isNeeded(C, B));
+        Checks.lay(x, "a=t");
+        OF.due("for the first thing", 1, x.isNeeded(T, E));
         for (int k = F + 1; k <= F + 6; k++) {
             Checks.lay(x, (char) ('a' + k) + "=" + (char) ('a' + k - 1));
         }
@@ -296,12 +300,27 @@ public final class EdgeAnswersTest {
         x.make(D, 1);
         OF.dueFloat("6 of 12, what was used still counts", 0.5f, x.share());
         ThingMaker y = new ThingMaker();
+        y.wish(A, 1);
+        OF.dueFloat("one, gathered", 1.0f, y.share());
         y.wish(A, 999);
         OF.dueFloat("gathered only", 1.0f, y.share());
         ThingMaker z = Checks.with("d=a");
         z.bring(A, 9);
         z.wish(D, 9);
         OF.dueFloat("made only", 0.0f, z.share());
+    }
+
+    /** Floats hold each number up to 2 to the 24th, so it takes more than that to see what is converted to them. */
+    private static void shareConvertsBoth() {
+        ThingMaker x = OF.sentence("the first number divided by the sum of both, both converted to float");
+        Checks.lay(x, "k=20f+20g+20h+20i+20j");
+        Checks.lay(x, "d=4k+20a+20b+20c+20e");
+        for (int k = 0; k < 357; k++) {
+            x.make(D, 99);
+        }
+        OF.due("gathered", 16964640, x.told(2));
+        OF.due("batches, of 1 each", 176715, x.told(3));
+        OF.dueFloat("share", 16964640.0f / 17141355.0f, x.share());
     }
 
     private static void shareOfNone() {
@@ -416,6 +435,14 @@ public final class EdgeAnswersTest {
         OF.due("3 vessels fit", 6, x.canHave(D));
         x.bring(T, 3);
         OF.due("no vessel fits", 0, x.canHave(D));
+        // 52 batches need nothing, as the vessels e of a are enough by then; but 50 are enough for 999.
+        ThingMaker y = Checks.with("f20=c+e", "c=2a");
+        y.vessel(A, E);
+        y.bring(A, 9999);
+        y.bring(C, 26);
+        OF.due("50 batches for 999", 2, y.gather(F, 999, NONE));
+        y.bring(F, 40);
+        OF.due("no wish makes more batches than it needs", 40, y.canHave(F));
     }
 
     private static void canHaveNoThing() {

@@ -30,6 +30,7 @@ public final class EdgeFaultsTest {
         sixthIngredient();
         endOfTheText();
         placeOfTheEnd();
+        endAheadOfOlderBytes();
         firstFaultCounts();
         OF.end();
     }
@@ -317,10 +318,23 @@ public final class EdgeFaultsTest {
         faulty("d=2  ", 4, 5);
         faulty("d=a+  ", 4, 6);
         faulty(SIXTY_BUT_ONE + "d", 4, 60);
-        ThingMaker x = new ThingMaker();
-        Checks.lay(x, "d=4a+5b+6c");
-        Checks.lay(x, "d=");
-        OF.due("bytes of a longer text before play no part", 2, x.fault(1));
+    }
+
+    private static void endAheadOfOlderBytes() {
+        ThingMaker x = OF.sentence("4 the end of the text where something is missing (the length of the text)");
+        String longer = "d11=11a+11b";
+        for (int length = 0; length < longer.length(); length++) {
+            Checks.lay(x, longer);
+            OF.due("'" + longer.substring(0, length) + "'", length == 7 ? 1 : STATE, Checks.lay(x, longer.substring(0, length)));
+            if (length != 7) {
+                OF.due("kind at " + length, 4, x.fault(0));
+                OF.due("place at " + length, length, x.fault(1));
+            }
+        }
+        Checks.lay(x, "d=99a");
+        Checks.lay(x, "d=9");
+        OF.due("a digit that was wiped", 4, x.fault(0));
+        OF.due("its place", 3, x.fault(1));
     }
 
     private static void firstFaultCounts() {

@@ -10,11 +10,13 @@ public final class EdgePromisesTest {
         newBook();
         newTextFaultAndImages();
         recipeInPlace();
+        recipeLeavesAllElse();
         recipeLeavesTheText();
         recipeReturnsTheRank();
         recipeWithAFault();
         recipeWithRanksAmiss();
         forgetIsGatheredThen();
+        forgetLeavesAllElse();
         forgetReturnsTheYield();
         forgetNoThing();
         forgetNoRecipe();
@@ -107,6 +109,33 @@ public final class EdgePromisesTest {
         OF.due("two recipes", 2, x.told(0));
     }
 
+    private static void recipeLeavesAllElse() {
+        ThingMaker x = OF.sentence("Lays the recipe that the text tells, in place of that of the same thing");
+        giveAll(x, D);
+        Checks.lay(x, "d3=e");
+        dueAll(x, D);
+        OF.due("another yield", 3, x.thing(D, 2));
+    }
+
+    /** A recipe, two substitutes, a vessel and some in the store. */
+    private static void giveAll(ThingMaker x, int thing) {
+        Checks.lay(x, (char) ('a' + thing) + "2=a");
+        x.allow(thing, K);
+        x.allow(thing, S);
+        x.vessel(thing, T);
+        x.wish(thing, 2);
+        x.bring(thing, 5);
+    }
+
+    private static void dueAll(ThingMaker x, int thing) {
+        OF.due("substitutes stay", 2, x.thing(thing, 5));
+        OF.due("the first one", K, x.substitute(thing, 0));
+        OF.due("the second one", S, x.substitute(thing, 1));
+        OF.due("the vessel stays", T, x.thing(thing, 4));
+        OF.due("the store stays", 7, x.thing(thing, 0));
+        OF.due("made ones stay", 2, x.thing(thing, 7));
+    }
+
     private static void recipeLeavesTheText() {
         ThingMaker x = OF.sentence("the text stays");
         Checks.lay(x, "d=a");
@@ -180,6 +209,14 @@ public final class EdgePromisesTest {
         OF.due("recipes", 1, x.told(0));
         OF.due("ingredient", NONE, x.ingredient(D, 0, 0));
         OF.due("not needed", 0, x.isNeeded(A, E));
+    }
+
+    private static void forgetLeavesAllElse() {
+        ThingMaker x = OF.sentence("Takes the recipe of a thing out of the book: it is gathered then.");
+        giveAll(x, D);
+        x.forget(D);
+        dueAll(x, D);
+        OF.due("no yield", NONE, x.thing(D, 2));
     }
 
     private static void forgetReturnsTheYield() {

