@@ -8,6 +8,7 @@ public final class EdgeAnswersTest {
 
     public static void main(String[] args) {
         toldNumbers();
+        toldGreatestRank();
         toldOutOfRange();
         thingNone();
         thingAccounts();
@@ -30,6 +31,7 @@ public final class EdgeAnswersTest {
         canHaveFromNothingToAll();
         canHaveWhateverLesserNumbersNeed();
         canHaveWithinTheWish();
+        canHaveOfEachRank();
         canHaveNoThing();
         giftThatIsBest();
         giftTheLowest();
@@ -71,6 +73,29 @@ public final class EdgeAnswersTest {
         x.forget(A);
         OF.due("bit 19", 1 << 19, x.told(5));
         OF.due("greatest rank", 1, x.told(4));
+    }
+
+    private static void toldGreatestRank() {
+        ThingMaker x = OF.sentence("4 the greatest rank");
+        OF.due("no recipes", 0, x.told(4));
+        Checks.lay(x, "k=s");
+        Checks.lay(x, "f=k");
+        OF.due("of the lower one of two", 2, x.told(4));
+        Checks.lay(x, "b=s");
+        OF.due("of the second one of three, not the latest one", 2, x.told(4));
+        Checks.lay(x, "t=a");
+        Checks.lay(x, "e=a+b+c+d");
+        OF.due("of two with rank 2 among five", 2, x.told(4));
+        x.allow(C, F);
+        OF.due("by the substitute of an ingredient", 3, x.told(4));
+        x.forbid(C, 0);
+        OF.due("without it", 2, x.told(4));
+        x.forget(F);
+        OF.due("e is left with rank 2", 2, x.told(4));
+        x.forget(B);
+        OF.due("four recipes of rank 1", 1, x.told(4));
+        x.undo();
+        OF.due("undone", 2, x.told(4));
     }
 
     private static void toldOutOfRange() {
@@ -445,6 +470,23 @@ public final class EdgeAnswersTest {
         OF.due("no wish makes more batches than it needs", 40, y.canHave(F));
     }
 
+    private static void canHaveOfEachRank() {
+        OF.sentence("Finds how many of a thing could be had without gathering anything.");
+        String[] recipes = {"b2=a", "c=b", "d=c", "e=d", "f=e", "g=f", "h=g", "i=h"};
+        ThingMaker x = Checks.with(recipes);
+        for (int t = A; t <= A + 8; t++) {
+            x.bring(t, 1);
+        }
+        // Each has one of its own and what can be made of all below it; the one a makes two b.
+        for (int rank = 1; rank <= 8; rank++) {
+            OF.due("the rank", rank, x.thing(rank, 1));
+            OF.due("with one of each, rank " + rank, rank + 2, x.canHave(rank));
+        }
+        OF.due("a", 1, x.canHave(A));
+        x.bring(A, -1);
+        OF.due("two less without a", 8, x.canHave(A + 8));
+    }
+
     private static void canHaveNoThing() {
         ThingMaker x = OF.sentence("(0 needs nothing); BAD if there is no such thing.");
         for (int t : NO_THINGS) {
@@ -485,7 +527,7 @@ public final class EdgeAnswersTest {
         ThingMaker x = OF.sentence("things with which the wish would fail do not count");
         Checks.lay(x, "d2=b+c");
         x.allow(B, A);
-        OF.due("a in place of b", A, x.bestGift(D, 1 + 1));
+        OF.due("a in place of b", A, x.bestGift(D, 2));
         x.vessel(A, T);
         OF.due("its vessel fits", A, x.bestGift(D, 2));
         Checks.fill(x, T, 99999);

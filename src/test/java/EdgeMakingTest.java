@@ -8,6 +8,7 @@ public final class EdgeMakingTest {
         ownFromTheStore();
         substitutesFromTheStore();
         substitutesOnlyForWhatIsMissing();
+        eachIsAskedOnce();
         batchesRoundedUp();
         batchesFoundAhead();
         onlyTheMissingAreUsed();
@@ -101,6 +102,31 @@ public final class EdgeMakingTest {
         OF.due("what is missing even so is made", 2, x.make(D, 1));
         thing(x, E, 0, 0, 0, 3);
         thing(x, A, 0, 0, 2, 6);
+    }
+
+    private static void eachIsAskedOnce() {
+        OF.sentence("likewise from its substitutes, in their order; what is missing even so is provided like this");
+        ThingMaker x = Checks.with("d=4a");
+        x.allow(A, B);
+        x.vessel(B, A);
+        x.bring(B, 2);
+        OF.due("the vessels of 2 b are a, but the turn of a is over", 2, x.make(D, 1));
+        thing(x, A, 2, 2, 0, 2);
+        ThingMaker y = Checks.with("d=4a");
+        y.allow(A, B);
+        y.allow(A, C);
+        y.vessel(C, B);
+        y.bring(C, 3);
+        OF.due("the turn of b is over", 1, y.make(D, 1));
+        thing(y, B, 3, 0, 0, 0);
+        thing(y, A, 0, 1, 0, 1);
+        ThingMaker z = Checks.with("d=4a");
+        z.allow(A, C);
+        z.allow(A, B);
+        z.vessel(C, B);
+        z.bring(C, 2);
+        OF.due("the turn of b is yet to come", 0, z.make(D, 1));
+        thing(z, B, 0, 0, 0, 2);
     }
 
     // ---- providing
