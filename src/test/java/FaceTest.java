@@ -1,3 +1,4 @@
+import java.lang.reflect.Constructor;
 import java.lang.reflect.Field;
 import java.lang.reflect.Method;
 import java.lang.reflect.Modifier;
@@ -56,12 +57,16 @@ public final class FaceTest {
             }
         }
         C.dueTrue("fields as in the document", fields.equals(new TreeSet<>(Arrays.asList("BAD", "STATE", "FULL", "NONE"))));
-        C.due("constructors", 1, c.getDeclaredConstructors().length);
-        C.dueTrue("public constructor", Modifier.isPublic(c.getDeclaredConstructors()[0].getModifiers()));
+        TreeSet<String> constructors = new TreeSet<>();
+        for (Constructor<?> made : c.getDeclaredConstructors()) {
+            if (!Modifier.isPrivate(made.getModifiers())) {
+                constructors.add(made.toString());
+            }
+        }
+        C.dueText("constructors", "[public ThingMaker()]", constructors.toString());
         for (Class<?> inside : c.getDeclaredClasses()) {
             int m = inside.getModifiers();
-            C.dueTrue(inside + " is hidden and static",
-                    Modifier.isStatic(m) && !Modifier.isPublic(m) && !Modifier.isProtected(m));
+            C.dueTrue(inside + " is hidden", !Modifier.isPublic(m) && !Modifier.isProtected(m));
         }
     }
 

@@ -1,9 +1,9 @@
 import java.lang.management.ManagementFactory;
 
-/** The dearest calls of a run keep to the room, of 7.3 million fields and elements in all. */
+/** The dearest calls of a run keep to the room, of 600,000 objects and 7.3 million fields and elements in all. */
 public final class RoomTest {
-    /** A field or an element takes 4 bytes at least; heads of objects come in addition. */
-    private static final long ROOM_IN_BYTES = 4L * 7_300_000L;
+    /** The bytes that the room takes at most: a field or an element up to 8, and the head of an object 16. */
+    private static final long ROOM_IN_BYTES = 8L * 7_300_000L + 16L * 600_000L;
     private static final Checks C = new Checks("RoomTest");
 
     public static void main(String[] args) {
